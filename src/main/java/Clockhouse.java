@@ -1261,7 +1261,7 @@ public final class Clockhouse {
 
         static int raiseByInt(int a, int exponent, int m) {
             if (m <= 0) {
-                return MISSED;
+                return JAMMED;
             }
             int result = 1 % m;
             int factor = a;
@@ -1278,7 +1278,7 @@ public final class Clockhouse {
 
         static int raise(int a, Big exponent, int m) {
             if (m <= 0) {
-                return MISSED;
+                return JAMMED;
             }
             int factor = exponent.sign < 0 ? invert(a, m) : a;
             if (factor == MISSED) {
