@@ -1,14 +1,5 @@
 /** Promise by promise: ordinary inputs, the edges that the document names, and wrong inputs. */
-public final class PromiseTest {
-
-    private static final int[] NO_SLOTS = {-1, 6, Integer.MIN_VALUE, Integer.MAX_VALUE};
-    private static final String NINES = "999999999999999999999999999999999999";
-
-    private static int wrong = 0;
-
-    private interface Call {
-        Object make();
-    }
+public final class PromiseTest extends Checks {
 
     public static void main(String[] args) {
         newObject();
@@ -36,51 +27,7 @@ public final class PromiseTest {
         booksCount();
         digests();
         exceptionsFirst();
-        System.out.println(wrong == 0 ? "all promises hold" : wrong + " answers are not as due");
-        if (wrong != 0) {
-            System.exit(1);
-        }
-    }
-
-    private static void due(int promise, Object due, Call call) {
-        Object got;
-        try {
-            got = call.make();
-        } catch (RuntimeException e) {
-            got = e.getClass().getSimpleName();
-        }
-        if (!due.equals(got)) {
-            wrong++;
-            System.out.println("promise " + promise + ": answered " + got + ", due is " + due + ", at "
-                    + new Throwable().getStackTrace()[1]);
-        }
-    }
-
-    private static final String INDEX = "IndexOutOfBoundsException";
-    private static final String ARGUMENT = "IllegalArgumentException";
-    private static final String STATE = "IllegalStateException";
-
-    private static Clockhouse with(int dial, int... numbers) {
-        Clockhouse x = new Clockhouse();
-        x.dial(dial);
-        for (int i = 0; i < numbers.length; i++) {
-            x.set(i, numbers[i]);
-        }
-        return x;
-    }
-
-    /** Makes a number of any digits in a slot. */
-    private static void put(Clockhouse x, int slot, String text) {
-        boolean below = text.startsWith("-");
-        String digits = below ? text.substring(1) : text;
-        int first = (digits.length() - 1) % 9 + 1;
-        x.set(slot, Integer.parseInt(digits.substring(0, first)));
-        for (int i = first; i < digits.length(); i += 9) {
-            x.lengthen(slot, Integer.parseInt(digits.substring(i, i + 9)));
-        }
-        if (below) {
-            x.negate(slot);
-        }
+        end("all promises hold");
     }
 
     private static void newObject() {
