@@ -24,6 +24,7 @@ public final class EdgesOfNumbersTest extends Checks {
         digitsCounted();
         greatestCommon();
         bigMods();
+        bigModsOfWrongGuesses();
         bigInverses();
         bigPowers();
         bigPowersBelow();
@@ -371,6 +372,23 @@ public final class EdgesOfNumbersTest extends Checks {
                     due(n.mod(dial).toString(), () -> holding(n.toString(), m).bigMod(0, 1));
                 }
             }
+        }
+    }
+
+    /** Long divisions by limbs of nine digits in which the first guess of a limb is one or two too high. */
+    private static void bigModsOfWrongGuesses() {
+        says(23, "Returns the text of its NUMBER MOD that of the other SLOT");
+        String[][] pairs = {{tenTo(27), "1000000000000000001"}, {"2" + "0".repeat(27), "1000000000000000001"},
+            {tenTo(27), "333333333499999999"}, {"999999998" + "0".repeat(27), "333333333499999999"},
+            {"999999998" + "0".repeat(27), "333333333499999999000000000"},
+            {"9".repeat(9) + "0".repeat(27), "333333333499999999000000000"}};
+        for (String[] pair : pairs) {
+            BigInteger n = new BigInteger(pair[0]);
+            BigInteger m = new BigInteger(pair[1]);
+            due(n.mod(m).toString(), () -> holding(pair).bigMod(0, 1));
+            due(n.negate().mod(m).toString(), () -> holding("-" + pair[0], pair[1]).bigMod(0, 1));
+            due(n.gcd(m).toString(), () -> holding(pair).bigGcd(0, 1));
+            due(n.multiply(n).mod(m).toString(), () -> holding(pair[0], pair[1], "2").bigPower(0, 2, 1));
         }
     }
 

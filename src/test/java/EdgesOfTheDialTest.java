@@ -27,6 +27,7 @@ public final class EdgesOfTheDialTest extends Checks {
         orders();
         generatorsByPlace();
         generatorsKnown();
+        generatorsOfAnotherDial();
         rowsOfPowers();
         partsOfRows();
         rootsCounted();
@@ -465,6 +466,19 @@ public final class EdgesOfTheDialTest extends Checks {
                 x.set(0, a);
                 due(all.contains(a), () -> x.isGenerator(0));
             }
+        }
+    }
+
+    private static void generatorsOfAnotherDial() {
+        says(TERMS, "A GENERATOR is one of the UNITS whose ORDER is the count of UNITS.");
+        Clockhouse x = with(397, -1);
+        for (int dial : new int[] {397, 7, 11, 400, 1, 311, 2, 8, 0, 12, 211, 5, 3, 331, 4, 23}) {
+            x.dial(dial);
+            List<Integer> all = generatorsOf(dial);
+            int due = dial <= 0 ? JAMMED : all.isEmpty() ? NONE : all.get(0);
+            due(due, () -> x.generator(0));
+            due(dial <= 0 ? JAMMED : NONE, () -> x.generator(all.size()));
+            due(all.contains(dial - 1), () -> x.isGenerator(0));
         }
     }
 
