@@ -4,22 +4,18 @@ import java.lang.reflect.Method;
 import java.lang.reflect.Modifier;
 import java.nio.file.Files;
 import java.nio.file.Path;
-import java.util.List;
 import java.util.Set;
 import java.util.TreeSet;
-import java.util.regex.Pattern;
 
-/** The class's face is the document's, no more and no less, and its text keeps to rules of LANGUAGE.md. */
+/** The class's face is the document's, no more and no less; and a run of the dearest calls stays in its room. */
 public final class FaceTest {
 
     private static int wrong = 0;
 
     public static void main(String[] args) throws Exception {
         checkFace();
-        checkNames();
-        checkText();
         checkRoom();
-        System.out.println(wrong == 0 ? "face and language are as due" : wrong + " faults of face or language");
+        System.out.println(wrong == 0 ? "face and room are as due" : wrong + " faults of face or room");
         if (wrong != 0) {
             System.exit(1);
         }
@@ -76,55 +72,6 @@ public final class FaceTest {
         for (Field f : Clockhouse.class.getDeclaredFields()) {
             if (!Modifier.isPrivate(f.getModifiers())) {
                 fault("no private field: " + f.getName());
-            }
-        }
-    }
-
-    private static void checkNames() {
-        Set<String> face = new TreeSet<>();
-        for (Method m : Clockhouse.class.getDeclaredMethods()) {
-            if (Modifier.isPublic(m.getModifiers())) {
-                face.add(m.getName());
-            }
-        }
-        for (Class<?> inside : Clockhouse.class.getDeclaredClasses()) {
-            for (Method m : inside.getDeclaredMethods()) {
-                if (face.contains(m.getName())) {
-                    fault(inside.getSimpleName() + " has a method with a name of the face: " + m.getName());
-                }
-            }
-            if (!Modifier.isStatic(inside.getModifiers()) || Modifier.isPublic(inside.getModifiers())) {
-                fault("no static inner class: " + inside.getSimpleName());
-            }
-        }
-        if (Clockhouse.class.getDeclaredClasses().length > 11) {
-            fault("more than 12 classes");
-        }
-    }
-
-    private static void checkText() throws Exception {
-        String source = Files.readString(Path.of("src/main/java/Clockhouse.java"));
-        String code = source.replaceAll("(?s)/\\*.*?\\*/", "").replaceAll("//[^\n]*", "")
-                .replaceAll("\"[^\"\n]*\"", "\"\"");
-        List<String> ruledOut = List.of("\\bimport\\b", "\\bcatch\\b", "\\bfinally\\b", "->", "::", "\\bassert\\b",
-                "\\bsynchronized\\b", "Exact\\b", "static \\{", "\\bwhile\\b", "\"\" \\+", "\\+ \"\"", "\\bvar\\b",
-                "\\bdouble\\b", "\\bfloat\\b");
-        for (String part : ruledOut) {
-            if (Pattern.compile(part).matcher(code).find()) {
-                fault("ruled out here: " + part);
-            }
-        }
-        int start = -1;
-        String[] lines = source.split("\n");
-        for (int i = 0; i < lines.length; i++) {
-            if (lines[i].matches("( {4}| {8})\\S.*\\) .*\\{|( {4}| {8})\\S.*\\) \\{") && !lines[i].contains("class ")) {
-                start = i;
-            }
-            if (lines[i].matches(" {4}}| {8}}") && start >= 0) {
-                if (i - start > 60) {
-                    fault("a method longer than 60 lines from line " + (start + 1));
-                }
-                start = -1;
             }
         }
     }
