@@ -49,7 +49,12 @@ public final class ReadmeTest {
     private static void copyProject(Path place) throws IOException {
         try (Stream<Path> all = Files.walk(Path.of("src"))) {
             for (Path from : all.toList()) {
-                Files.copy(from, place.resolve(from.toString()));
+                Path to = place.resolve(from.toString());
+                if (Files.isDirectory(from)) {
+                    Files.createDirectories(to);
+                } else {
+                    Files.write(to, Files.readAllBytes(from));
+                }
             }
         }
     }
